@@ -469,64 +469,44 @@ public final class WellKnots {
         }
 
         void scan() {
-            while (next < length && byteAt(next) == ' ') {
-                next++;
-            }
-            place = next;
+            place = endOfRow(next, ' ', ' ');
             value = 0;
-            int c = byteAt(next);
-            if (c < 0) {
+            if (place >= length || place >= MOST_BYTES) {
                 kind = END;
-            } else if (isDigit(c)) {
+                next = place;
+            } else if (isWithin(place, '0', '9')) {
                 scanNumber();
-            } else if (isLetter(c)) {
-                scanLetters();
+            } else if (isWithin(place, 'a', 'z')) {
+                next = endOfRow(place, 'a', 'z');
+                kind = LETTERS;
+                value = next - place == 1 ? bytes[place] : 0;
             } else {
-                kind = c == ';' ? STOP : WRONG;
-                next++;
+                next = place + 1;
+                kind = bytes[place] == ';' ? STOP : WRONG;
             }
-        }
-
-        boolean scanNumberWithin(int low, int high) {
-            scan();
-            return kind == NUMBER && within(value, low, high);
-        }
-
-        boolean scanStop() {
-            scan();
-            return kind == STOP;
         }
 
         private void scanNumber() {
-            while (next < length && isDigit(byteAt(next))) {
+            next = endOfRow(place, '0', '9');
+            for (int i = place; i < next && i < MOST_BYTES; i++) {
                 // held at 100, since a long row of digits would wrap around to a small number
-                value = Math.min(100, value * 10 + byteAt(next) - '0');
-                next++;
+                value = Math.min(100, value * 10 + bytes[i] - '0');
             }
-            boolean zeroAhead = byteAt(place) == '0' && next - place > 1;
+            boolean zeroAhead = next - place > 1 && bytes[place] == '0';
             kind = value > 99 || zeroAhead ? WRONG : NUMBER;
         }
 
-        private void scanLetters() {
-            int first = byteAt(next);
-            while (next < length && isLetter(byteAt(next))) {
-                next++;
+        /** Where the row of bytes from low to high that begins there, if one does, has its end. */
+        private int endOfRow(int from, int low, int high) {
+            int i = from;
+            while (i < length && isWithin(i, low, high)) {
+                i++;
             }
-            kind = LETTERS;
-            value = next - place == 1 ? first : 0;
+            return i;
         }
 
-        /** The byte there, or -1 beyond the end. */
-        private int byteAt(int i) {
-            return 0 <= i && i < length && i < MOST_BYTES ? bytes[i] : -1;
-        }
-
-        private static boolean isDigit(int c) {
-            return '0' <= c && c <= '9';
-        }
-
-        private static boolean isLetter(int c) {
-            return 'a' <= c && c <= 'z';
+        private boolean isWithin(int i, int low, int high) {
+            return 0 <= i && i < length && i < MOST_BYTES && low <= bytes[i] && bytes[i] <= high;
         }
     }
 
@@ -665,7 +645,7 @@ public final class WellKnots {
         }
 
         private boolean tellWell(Text text) {
-            if (wells >= WELLS || !hear(text, 0, 0, 1) || !text.scanStop()) {
+            if (wells >= WELLS || !hear(text, 0, 0, 1) || !hearStop(text)) {
                 return false;
             }
             refuses[wells] = said[0] == 1;
@@ -674,13 +654,13 @@ public final class WellKnots {
         }
 
         private boolean tellStage(Text text) {
-            if (stages >= STAGES || !hearTwoWells(text)) {
+            if (stages >= STAGES || !hear(text, 0, 0, wells - 1) || !hear(text, 1, 0, wells - 1)) {
                 return false;
             }
-            if (!hear(text, 2, 1, MOST_HEAT) || !hear(text, 3, 0, 1)) {
+            if (said[0] == said[1] || !hear(text, 2, 1, MOST_HEAT) || !hear(text, 3, 0, 1)) {
                 return false;
             }
-            if (!hear(text, 4, 0, wells - 1) || !text.scanStop()) {
+            if (!hear(text, 4, 0, wells - 1) || !hearStop(text)) {
                 return false;
             }
             firstEnds[stages] = said[0];
@@ -696,7 +676,7 @@ public final class WellKnots {
             if (caravans >= CARAVANS || !hear(text, 0, 0, wells - 1)) {
                 return false;
             }
-            if (!hear(text, 1, 0, MOST_CUPS) || !hear(text, 2, 1, MOST_BEARS) || !text.scanStop()) {
+            if (!hear(text, 1, 0, MOST_CUPS) || !hear(text, 2, 1, MOST_BEARS) || !hearStop(text)) {
                 return false;
             }
             start.setPlace(caravans, said[0]);
@@ -711,7 +691,7 @@ public final class WellKnots {
             if (!hear(text, 0, 0, caravans - 1) || !hear(text, 1, 0, wells - 1)) {
                 return false;
             }
-            if (!hear(text, 2, 0, MOST_TOLD) || !text.scanStop()) {
+            if (!hear(text, 2, 0, MOST_TOLD) || !hearStop(text)) {
                 return false;
             }
             start.setKnots(said[0], said[1], said[2]);
@@ -719,24 +699,30 @@ public final class WellKnots {
         }
 
         private boolean tellDues(Text text) {
-            if (!hearTwoWells(text) || !hear(text, 2, 0, MOST_TOLD) || !text.scanStop()) {
+            if (!hear(text, 0, 0, wells - 1) || !hear(text, 1, 0, wells - 1) || said[0] == said[1]) {
+                return false;
+            }
+            if (!hear(text, 2, 0, MOST_TOLD) || !hearStop(text)) {
                 return false;
             }
             start.setDues(said[0], said[1], said[2]);
             return true;
         }
 
-        private boolean hearTwoWells(Text text) {
-            return hear(text, 0, 0, wells - 1) && hear(text, 1, 0, wells - 1) && said[0] != said[1];
-        }
-
         /** Takes the next token as the i-th number said; a false answer leaves the scan on what is wrong. */
         private boolean hear(Text text, int i, int low, int high) {
-            if (i < 0 || i >= said.length || !text.scanNumberWithin(low, high)) {
+            text.scan();
+            int n = text.tokenValue();
+            if (text.tokenKind() != Text.NUMBER || n < low || n > high || i < 0 || i >= said.length) {
                 return false;
             }
-            said[i] = text.tokenValue();
+            said[i] = n;
             return true;
+        }
+
+        private static boolean hearStop(Text text) {
+            text.scan();
+            return text.tokenKind() == Text.STOP;
         }
     }
 

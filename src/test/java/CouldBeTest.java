@@ -91,6 +91,7 @@ public final class CouldBeTest {
     private static void ring() {
         ringDue("d0 1 5;d1 0 3;", 3, 0, 1);
         ringDue("d5 4 5;d4 5 3;", 3, 4, 5);
+        ringDue("d1 2 1;d2 1 1;", 1, 1, 2);
         ringDue("d2 1 5;d1 3 4;d3 2 9;", 4, 1, 3, 2);
         ringDue("d0 5 60;d5 1 60;d1 4 60;d4 2 60;d2 3 60;d3 0 60;", 60, 0, 5, 1, 4, 2, 3);
         ringDue("d0 1 5;d1 2 5;d2 0 5;d1 0 8;d0 2 1;", 5, 0, 1, 2);

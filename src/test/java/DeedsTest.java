@@ -89,6 +89,9 @@ public final class DeedsTest {
         Checks.due("dead: fills", x.fills(0, 1), -2);
         Checks.due("dead: hands", x.hands(0, 1, 0, 1), -2);
         Checks.due("to a dead one", x.hands(1, 0, 0, 1), -2);
+        x.fills(1, 9);
+        Checks.due("to a dead one, of what it has", x.hands(1, 0, 1, 1), -2);
+        Checks.due("from a dead one", x.hands(0, 1, 1, 1), -2);
         Checks.due("dead: pass", x.pass(0, 1, 0), -2);
         Checks.due("dead: safe", x.safe(0, 0, 0, 0, 0, 0), -2);
         Checks.due("dead: drinks, bad", x.drinks(0, 0), -1);

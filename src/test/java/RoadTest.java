@@ -162,6 +162,9 @@ public final class RoadTest {
         fault("  ww0;", 2);
         fault("w0;sw0 1;", 3);
         fault("a0;", 0);
+        fault("wa0;", 0);
+        fault("wz0;", 0);
+        fault("w0;" + (char) 0, 3);
         fault("z0;", 0);
         fault("0;", 0);
         fault(";", 0);

@@ -58,6 +58,11 @@ public final class StonesTest {
         Checks.due("forget again", x.forget(), 0);
         Checks.due("hears anew", x.hears(1, 0, 4, 0), 1);
         Checks.due("SUCKED anew", x.stones(0), 2);
+        x.hears(0, 0, 0, 0);
+        x.forget();
+        x.hears(1, 0, 5, 0);
+        Checks.due("SUCKED: nothing forgotten", x.stones(0), 0);
+        Checks.due("LIARS: nothing forgotten", x.stones(1), 0);
     }
 
     private static void heardOfTheDead() {
