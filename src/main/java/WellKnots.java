@@ -470,43 +470,41 @@ public final class WellKnots {
 
         void scan() {
             place = endOfRow(next, ' ', ' ');
+            next = place;
             value = 0;
-            if (place >= length || place >= MOST_BYTES) {
+            if (place < 0 || place >= length || place >= MOST_BYTES) {
                 kind = END;
-                next = place;
-            } else if (isWithin(place, '0', '9')) {
-                scanNumber();
-            } else if (isWithin(place, 'a', 'z')) {
+                return;
+            }
+            int c = bytes[place];
+            if (within(c, '0', '9')) {
+                next = endOfRow(place, '0', '9');
+                readNumber(c == '0');
+            } else if (within(c, 'a', 'z')) {
                 next = endOfRow(place, 'a', 'z');
                 kind = LETTERS;
-                value = next - place == 1 ? bytes[place] : 0;
+                value = next - place == 1 ? c : 0;
             } else {
                 next = place + 1;
-                kind = bytes[place] == ';' ? STOP : WRONG;
+                kind = c == ';' ? STOP : WRONG;
             }
         }
 
-        private void scanNumber() {
-            next = endOfRow(place, '0', '9');
+        private void readNumber(boolean zeroAhead) {
             for (int i = place; i < next && i < MOST_BYTES; i++) {
                 // held at 100, since a long row of digits would wrap around to a small number
                 value = Math.min(100, value * 10 + bytes[i] - '0');
             }
-            boolean zeroAhead = next - place > 1 && bytes[place] == '0';
-            kind = value > 99 || zeroAhead ? WRONG : NUMBER;
+            kind = value > 99 || zeroAhead && next - place > 1 ? WRONG : NUMBER;
         }
 
         /** Where the row of bytes from low to high that begins there, if one does, has its end. */
         private int endOfRow(int from, int low, int high) {
-            int i = from;
-            while (i < length && isWithin(i, low, high)) {
+            int i = Math.max(0, from);
+            while (i < length && i < MOST_BYTES && low <= bytes[i] && bytes[i] <= high) {
                 i++;
             }
             return i;
-        }
-
-        private boolean isWithin(int i, int low, int high) {
-            return 0 <= i && i < length && i < MOST_BYTES && low <= bytes[i] && bytes[i] <= high;
         }
     }
 
