@@ -2,6 +2,8 @@
 final class Checks {
     private static int made = 0;
     private static int wrong = 0;
+    private static int edges = 0;
+    private static String sentence = "";
 
     private Checks() {
     }
@@ -10,8 +12,21 @@ final class Checks {
         made++;
         if (got != want) {
             wrong++;
-            System.out.println(call + " answered " + got + ", due is " + want);
+            System.out.println(sentence + call + " answered " + got + ", due is " + want);
         }
+    }
+
+    /** The test of one sentence of the document that names a boundary case; a test that looks at nothing fails. */
+    static void edge(String words, Runnable test) {
+        int before = made;
+        edges++;
+        sentence = "[" + words + "] ";
+        test.run();
+        if (made == before) {
+            wrong++;
+            System.out.println(sentence + "looked at no answer");
+        }
+        sentence = "";
     }
 
     static void type(WellKnots x, String text) {
@@ -38,7 +53,8 @@ final class Checks {
 
     /** Ends the test: exit code 1 if an answer was wrong. */
     static void end(String name) {
-        System.out.println(name + ": " + made + " answers looked at, " + wrong + " wrong");
+        System.out.println(name + ": " + made + " answers looked at" + (edges > 0 ? ", " + edges + " sentences" : "")
+            + ", " + wrong + " wrong");
         if (wrong != 0 || made == 0) {
             System.exit(1);
         }

@@ -61,10 +61,12 @@ public final class ModelTest {
 
     private void tell(String text) {
         due("clear()", x.clear(), m.clear());
-        for (int i = 0; i < text.length(); i++) {
+        for (int i = 0; i < text.length() && calls < CALLS; i++) {
             due("type()", x.type(text.charAt(i)), m.type(text.charAt(i)));
         }
-        due("road() of '" + text + "'", x.road(), m.road());
+        if (calls < CALLS) {
+            due("road() of '" + text + "'", x.road(), m.road());
+        }
     }
 
     private String text() {
@@ -219,7 +221,9 @@ public final class ModelTest {
             case 6: case 7: {
                 int kind = near(0, 5);
                 due("mark(" + kind + ", " + w + ")", x.mark(kind, w), m.mark(kind, w));
-                due("trace()", x.trace(), m.trace());
+                if (calls < CALLS) {
+                    due("trace()", x.trace(), m.trace());
+                }
                 break;
             }
             case 8: {
