@@ -5,8 +5,8 @@ import java.util.function.Supplier;
 import java.util.function.ToLongFunction;
 
 /**
- * Two objects that must answer alike to all that can be asked of them. What may be undone, what images keep and what
- * THE TEXT tells shows only when it is brought back, so each of these is looked at on a pair of its own.
+ * Two objects that must be alike in all that they hold. What may be undone, what images keep and what THE TEXT tells
+ * shows only when it is brought back, so each of these is looked at on a pair of its own.
  */
 final class Twins {
     private static final String RICH = "w0;w1;w0;s0 1 4 0 2;s1 2 9 1 0;s0 2 1 1 1;c0 9 12;c2 20 20;c1 0 1;"
@@ -49,7 +49,7 @@ final class Twins {
         return x;
     }
 
-    /** Both answer alike, whatever is asked then. */
+    /** Both hold the same, THE TRACE too. */
     static void alike(String name, Supplier<WellKnots> one, Supplier<WellKnots> other) {
         alikeButTrace(name, one, other);
         look(name + ", then trace()", one, other, (x, seen) -> seen.add(x.trace()));
