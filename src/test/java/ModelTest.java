@@ -1,12 +1,23 @@
 import java.util.Random;
 
-/** Long runs of calls of every kind, from fixed seeds, each answer held against the model's: promises 1 to 27. */
+/**
+ * Runs of 512 calls of every kind, from fixed seeds, each answer held against the model's: promises 1 to 27. Each run
+ * ends with a call of the promise whose turn it is, and every promise has its turn some sixty times.
+ */
 public final class ModelTest {
-    private static final int RUNS = 1500;
+    private static final int RUNS = 1560;
     private static final int CALLS = 512;
+    private static final int FIRST_CALL = 2, LAST_CALL = 27;
+
+    /** Promises, each as often as it is to be drawn. */
+    private static final int[] DRAWN = {10, 10, 10, 10, 10, 10, 10, 10, 10, 10, 10, 10, 11, 11, 11, 11, 11, 11, 11, 11,
+        12, 12, 12, 12, 12, 12, 13, 13, 13, 13, 13, 13, 14, 14, 15, 15, 15, 5, 5, 6, 6, 6, 6, 6, 6, 7, 7, 7, 8, 8, 8, 9,
+        9, 9, 16, 16, 16, 16, 26, 26, 26, 17, 17, 17, 17, 17, 18, 18, 18, 18, 19, 19, 19, 19, 20, 20, 20, 20, 21, 22, 22,
+        22, 23, 23, 27, 24, 24, 25, 25, 2};
 
     private final Random random;
     private final String name;
+    private final int last;
     private final WellKnots x = new WellKnots();
     private final Model m = new Model();
     private int calls;
@@ -14,6 +25,7 @@ public final class ModelTest {
     private ModelTest(int seed) {
         random = new Random(seed);
         name = "seed " + seed + ": ";
+        last = FIRST_CALL + seed % (LAST_CALL - FIRST_CALL + 1);
     }
 
     public static void main(String[] args) {
@@ -24,13 +36,15 @@ public final class ModelTest {
     }
 
     private void run() {
-        while (calls < CALLS) {
+        while (calls < CALLS - 1) {
             tell(text());
             int deeds = 20 + random.nextInt(300);
-            for (int i = 0; i < deeds && calls < CALLS; i++) {
-                any();
+            for (int i = 0; i < deeds && calls < CALLS - 1; i++) {
+                call(DRAWN[below(DRAWN.length)]);
             }
         }
+        call(last);
+        Checks.due(name + "calls", calls, CALLS);
     }
 
     private void due(String call, long got, long want) {
@@ -61,10 +75,10 @@ public final class ModelTest {
 
     private void tell(String text) {
         due("clear()", x.clear(), m.clear());
-        for (int i = 0; i < text.length() && calls < CALLS; i++) {
+        for (int i = 0; i < text.length() && calls < CALLS - 1; i++) {
             due("type()", x.type(text.charAt(i)), m.type(text.charAt(i)));
         }
-        if (calls < CALLS) {
+        if (calls < CALLS - 1) {
             due("road() of '" + text + "'", x.road(), m.road());
         }
     }
@@ -114,77 +128,78 @@ public final class ModelTest {
         return t.toString();
     }
 
-    private void any() {
-        int kind = below(100);
-        if (kind < 45) {
-            deed();
-        } else if (kind < 75) {
-            look();
-        } else if (kind < 90) {
-            couldBe();
+    private void call(int promise) {
+        if (promise < 10) {
+            callTheRoad(promise);
+        } else if (promise < 17) {
+            callWhatIsDone(promise);
+        } else if (promise < 20) {
+            callWhatCouldBe(promise);
         } else {
-            rest();
+            callTheRest(promise);
         }
     }
 
-    private void deed() {
+    private void callTheRoad(int promise) {
         int c = caravan();
         int s = stage();
         int w = well();
-        switch (below(14)) {
-            case 0: case 1: case 2: case 3: case 4: {
+        int v = well();
+        int what = near(0, promise == 6 ? 5 : 4);
+        switch (promise) {
+            case 2: {
+                int sign = below(4) == 0 ? near(0, 255) : below(2) == 0 ? ' ' : ';';
+                due("type(" + sign + ")", x.type(sign), m.type(sign));
+                break;
+            }
+            case 3: due("clear()", x.clear(), m.clear()); break;
+            case 4: due("road()", x.road(), m.road()); break;
+            case 5: due("stage(" + s + ", " + what + ")", x.stage(s, what), m.stage(s, what)); break;
+            case 6: due("caravan(" + c + ", " + what + ")", x.caravan(c, what), m.caravan(c, what)); break;
+            case 7: due("well(" + w + ", " + what + ")", x.well(w, what), m.well(w, what)); break;
+            case 8: due("knots(" + c + ", " + w + ")", x.knots(c, w), m.knots(c, w)); break;
+            default: due("dues(" + w + ", " + v + ")", x.dues(w, v), m.dues(w, v));
+        }
+    }
+
+    private void callWhatIsDone(int promise) {
+        int c = caravan();
+        int s = stage();
+        int w = well();
+        int few = near(1, below(2) == 0 ? 5 : 20);
+        switch (promise) {
+            case 10: {
                 int d = below(3) == 0 ? 0 : near(0, 9);
                 due("goes(" + c + ", " + s + ", " + d + ")", x.goes(c, s, d), m.goes(c, s, d));
                 break;
             }
-            case 5: case 6: case 7: {
-                int n = near(1, below(2) == 0 ? 5 : 20);
-                due("drinks(" + c + ", " + n + ")", x.drinks(c, n), m.drinks(c, n));
-                break;
-            }
-            case 8: case 9: {
-                int n = near(1, below(2) == 0 ? 5 : 20);
-                due("fills(" + c + ", " + n + ")", x.fills(c, n), m.fills(c, n));
-                break;
-            }
-            case 10: case 11: {
+            case 11: due("drinks(" + c + ", " + few + ")", x.drinks(c, few), m.drinks(c, few)); break;
+            case 12: due("fills(" + c + ", " + few + ")", x.fills(c, few), m.fills(c, few)); break;
+            case 13: {
                 int e = caravan();
                 int n = below(3) == 0 ? near(1, 99) : 1 + below(20);
                 due("hands(" + c + ", " + e + ", " + w + ", " + n + ")", x.hands(c, e, w, n), m.hands(c, e, w, n));
                 break;
             }
-            case 12: due("strikes()", x.strikes(), m.strikes()); break;
-            default: due("undo()", x.undo(), m.undo());
+            case 14: due("strikes()", x.strikes(), m.strikes()); break;
+            case 15: due("undo()", x.undo(), m.undo()); break;
+            default: {
+                int what = near(0, 5);
+                due("now(" + what + ")", x.now(what), m.now(what));
+            }
         }
     }
 
-    private void look() {
-        int c = caravan();
-        int s = stage();
-        int w = well();
-        int v = well();
-        int what = near(0, 5);
-        switch (below(8)) {
-            case 0: due("stage(" + s + ", " + what + ")", x.stage(s, what), m.stage(s, what)); break;
-            case 1: case 2: due("caravan(" + c + ", " + what + ")", x.caravan(c, what), m.caravan(c, what)); break;
-            case 3: due("well(" + w + ", " + what + ")", x.well(w, what), m.well(w, what)); break;
-            case 4: due("knots(" + c + ", " + w + ")", x.knots(c, w), m.knots(c, w)); break;
-            case 5: due("dues(" + w + ", " + v + ")", x.dues(w, v), m.dues(w, v)); break;
-            case 6: due("now(" + what + ")", x.now(what), m.now(what)); break;
-            default: due("count(" + what + ")", x.count(what), m.count(what));
-        }
-    }
-
-    private void couldBe() {
+    private void callWhatCouldBe(int promise) {
         int c = caravan();
         int w = well();
-        switch (below(3)) {
-            case 0: {
+        switch (promise) {
+            case 17: {
                 int what = near(0, 2);
                 due("pass(" + c + ", " + w + ", " + what + ")", x.pass(c, w, what), m.pass(c, w, what));
                 break;
             }
-            case 1: {
+            case 18: {
                 int i = near(-2, 5);
                 due("ring(" + i + ")", x.ring(i), m.ring(i));
                 break;
@@ -201,40 +216,23 @@ public final class ModelTest {
         }
     }
 
-    private void rest() {
+    private void callTheRest(int promise) {
         int c = caravan();
         int s = stage();
         int w = well();
-        switch (below(10)) {
-            case 0: case 1: case 2: {
-                int d = near(0, 9);
-                int r = near(0, 9);
-                due("hears(" + c + ", " + s + ", " + d + ", " + r + ")", x.hears(c, s, d, r), m.hears(c, s, d, r));
-                break;
-            }
-            case 3: due("forget()", below(3) == 0 ? x.forget() - m.forget() : 0, 0); break;
-            case 4: case 5: {
-                int what = near(0, 1);
-                due("stones(" + what + ")", x.stones(what), m.stones(what));
-                break;
-            }
-            case 6: case 7: {
-                int kind = near(0, 5);
-                due("mark(" + kind + ", " + w + ")", x.mark(kind, w), m.mark(kind, w));
-                if (calls < CALLS) {
-                    due("trace()", x.trace(), m.trace());
-                }
-                break;
-            }
-            case 8: {
-                int image = near(0, 1);
-                due("keep(" + image + ")", x.keep(image), m.keep(image));
-                break;
-            }
-            default: {
-                int image = near(0, 1);
-                due("back(" + image + ")", x.back(image), m.back(image));
-            }
+        int d = near(0, 9);
+        int r = near(0, 9);
+        int kind = near(0, 5);
+        int one = near(0, 1);
+        switch (promise) {
+            case 20: due("hears(" + c + ", " + s + ", " + d + ", " + r + ")", x.hears(c, s, d, r), m.hears(c, s, d, r)); break;
+            case 21: due("forget()", x.forget(), m.forget()); break;
+            case 22: due("stones(" + one + ")", x.stones(one), m.stones(one)); break;
+            case 23: due("mark(" + kind + ", " + w + ")", x.mark(kind, w), m.mark(kind, w)); break;
+            case 24: due("keep(" + one + ")", x.keep(one), m.keep(one)); break;
+            case 25: due("back(" + one + ")", x.back(one), m.back(one)); break;
+            case 26: due("count(" + kind + ")", x.count(kind), m.count(kind)); break;
+            default: due("trace()", x.trace(), m.trace());
         }
     }
 }
