@@ -16,6 +16,7 @@ public final class LongRunsTest {
         final WellKnots x = new WellKnots();
         private final String promise;
         private int calls;
+        private String last;
 
         Run(String promise) {
             this.promise = promise;
@@ -23,11 +24,19 @@ public final class LongRunsTest {
 
         void due(String call, long got, long want) {
             calls++;
+            last = call;
             Checks.due(promise + ", call " + calls + ": " + call, got, want);
         }
 
         int left() {
             return CALLS - calls;
+        }
+
+        /** Calls that change nothing, so many that the run ends with the call it is about. */
+        void idle(int n) {
+            for (int i = 0; i < n; i++) {
+                due("count", x.count(4), 0);
+            }
         }
 
         void type(String text) {
@@ -51,11 +60,13 @@ public final class LongRunsTest {
         Checks.end("LongRunsTest");
     }
 
-    /** A run that makes one call more, or one fewer, than an object has is a fault of the test. */
+    /** A run that makes one call more, or one fewer, than an object has, or ends with another call, is a fault of the test. */
     private static void run(String promise, Consumer<Run> calls) {
         Run r = new Run(promise);
         calls.accept(r);
         Checks.due(promise + ": calls", r.calls, CALLS);
+        String call = promise.split("[:,] ")[1];
+        Checks.due(promise + ": ends with " + r.last, call.equals("A new object") || r.last.startsWith(call) ? 1 : 0, 1);
         runs++;
     }
 
@@ -180,8 +191,8 @@ public final class LongRunsTest {
             r.due("well", r.x.well(0, 0), i % 2);
             r.due("count", r.x.count(5), 0);
         }
+        r.due("count", r.x.count(0), 1);
         r.due("road", r.x.road(), 0);
-        r.due("count", r.x.count(0), 0);
     }
 
     private static void stagesStay(Run r) {
@@ -374,6 +385,7 @@ public final class LongRunsTest {
     /** Eleven deeds and ten undone: the first of them stays each time. */
     private static void undoesOn(Run r) {
         r.tell("w0;c0 0 1;c0 0 1;k0 0 60;");
+        r.idle(4);
         for (int i = 0; r.left() > 0; i++) {
             int round = i / 23;
             int step = i % 23;
@@ -390,6 +402,7 @@ public final class LongRunsTest {
     /** Four caravans die one by one, and all of it is undone. */
     private static void nowByDeaths(Run r) {
         r.tell("w0;w0;s0 1 9 0 0;c0 0 1;c0 0 1;c0 0 1;c0 0 1;k0 0 5;k1 1 6;k2 0 7;k3 1 8;d0 1 9;");
+        r.idle(1);
         int[] sand = {0, 5, 11, 18, 26};
         for (int i = 0; r.left() > 0; i++) {
             int step = i % 32;
@@ -439,6 +452,7 @@ public final class LongRunsTest {
 
     private static void ringsOneByOne(Run r) {
         r.tell(PAIRS);
+        r.idle(1);
         int[][] due = {{8, 2, 2, 3, NONE, NONE, NONE, NONE, BAD}, {4, 2, 0, 1, NONE, NONE, NONE, NONE, BAD},
             {1, 2, 4, 5, NONE, NONE, NONE, NONE, BAD}, {NONE, NONE, NONE, NONE, NONE, NONE, NONE, NONE, BAD}};
         int[] worth = {16, 8, 2};
@@ -521,6 +535,7 @@ public final class LongRunsTest {
 
     private static void forgets(Run r) {
         r.tell("w0;w0;s0 1 5 0 0;c0 0 1;");
+        r.idle(1);
         for (int heard = 0; r.left() > 0; heard = (heard + 1) % 7) {
             for (int n = 1; n <= heard && r.left() > 0; n++) {
                 r.due("hears", r.x.hears(0, 0, 5, 0), n);
@@ -562,6 +577,7 @@ public final class LongRunsTest {
 
     private static void marksOn(Run r) {
         r.tell("w0;w0;w0;s0 1 9 0 2;s1 0 9 0 2;c0 0 1;c1 0 1;k0 2 20;k1 2 40;k1 0 3;d2 0 50;d2 1 60;");
+        r.idle(1);
         int[] alive = {60, 62, -50, 124, -48, 60};
         int[] dead = {20, 22, -90, 44, -88, 63};
         for (int i = 0; r.left() > 0; i++) {
@@ -618,6 +634,7 @@ public final class LongRunsTest {
     /** Ten deeds and more are done behind an image, and it brings back what may be undone, too. */
     private static void backOn(Run r) {
         r.tell("w0;c0 0 1;c0 0 1;k0 0 60;");
+        r.idle(3);
         r.due("back", r.x.back(0), STATE);
         r.due("hands", r.x.hands(0, 1, 0, 2), 2);
         r.due("hands", r.x.hands(0, 1, 0, 3), 5);
@@ -641,6 +658,7 @@ public final class LongRunsTest {
 
     private static void countsOn(Run r) {
         r.tell("w0;w0;w0;s0 1 1 0 0;s1 2 1 0 0;c0 0 1;k0 0 60;");
+        r.idle(1);
         int bytes = 0;
         int heard = 0;
         int undos = 0;

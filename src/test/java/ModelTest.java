@@ -87,30 +87,46 @@ public final class ModelTest {
         StringBuilder t = new StringBuilder();
         int wells = below(12) == 0 ? below(8) : 2 + below(5);
         for (int w = 0; w < wells; w++) {
-            t.append('w').append(below(2)).append(';');
+            item(t, 'w', toTell(0, 1));
         }
         int stages = below(20) == 0 ? 9 : below(9);
         int caravans = below(20) == 0 ? 5 : 1 + below(4);
-        int w = Math.max(1, wells);
+        int last = Math.max(1, wells) - 1;
         for (int s = 0; s < stages && t.length() < 130; s++) {
-            int a = below(w);
-            t.append('s').append(a).append(' ').append(below(40) == 0 ? a : (a + 1 + below(Math.max(1, w - 1))) % w)
-                .append(' ').append(1 + below(9)).append(' ').append(below(2)).append(' ').append(below(w)).append(';');
+            int a = toTell(0, last);
+            item(t, 's', a, below(40) == 0 ? a : another(a, last), toTell(1, 9), toTell(0, 1), toTell(0, last));
         }
         for (int c = 0; c < caravans && t.length() < 160; c++) {
-            t.append('c').append(below(w)).append(' ').append(below(21)).append(' ').append(1 + below(20)).append(';');
+            item(t, 'c', toTell(0, last), toTell(0, 20), toTell(1, 20));
         }
-        int most = 1 + below(60);
+        int most = below(3) == 0 ? 60 : 1 + below(60);
         while (t.length() < 180 && below(15) != 0) {
-            int a = below(w);
+            int a = toTell(0, last);
             if (below(3) == 0) {
-                t.append('k').append(below(Math.max(1, caravans))).append(' ').append(a);
+                item(t, 'k', toTell(0, caravans - 1), a, toTell(0, most));
             } else {
-                t.append('d').append(a).append(' ').append((a + 1 + below(Math.max(1, w - 1))) % w);
+                item(t, 'd', a, another(a, last), toTell(0, most));
             }
-            t.append(' ').append(below(most + 1)).append(';');
         }
         return below(4) == 0 ? spoilt(t) : t.toString();
+    }
+
+    /** A number from low to high, now and then the one beyond, which is mostly a fault of the text. */
+    private int toTell(int low, int high) {
+        return below(250) == 0 ? (low > 0 && below(2) == 0 ? low - 1 : high + 1) : low + below(high - low + 1);
+    }
+
+    private int another(int a, int last) {
+        int b = toTell(0, last);
+        return a == b ? (b + 1) % (last + 1) : b;
+    }
+
+    private static void item(StringBuilder t, char letter, int... numbers) {
+        t.append(letter);
+        for (int i = 0; i < numbers.length; i++) {
+            t.append(i > 0 ? " " : "").append(numbers[i]);
+        }
+        t.append(';');
     }
 
     private String spoilt(StringBuilder t) {
