@@ -15,6 +15,9 @@ public final class ModelTest {
         9, 9, 16, 16, 16, 16, 26, 26, 26, 17, 17, 17, 17, 17, 18, 18, 18, 18, 19, 19, 19, 19, 20, 20, 20, 20, 21, 22, 22,
         22, 23, 23, 27, 24, 24, 25, 25, 2};
 
+    private static final String[] TOKENS = {"w", "s", "c", "k", "d", "ab", "ww", "z", "0", "1", "00", "01", "9", "10",
+        "20", "21", "60", "61", "99", "99", "100", "4294967296", ";"};
+
     private final Random random;
     private final String name;
     private final int last;
@@ -134,14 +137,28 @@ public final class ModelTest {
         for (int n = 1 + below(2); n > 0 && t.length() > 0; n--) {
             int at = below(t.length());
             char sign = below(8) == 0 ? (char) below(256) : signs.charAt(below(signs.length()));
-            switch (below(4)) {
+            switch (below(6)) {
                 case 0: t.deleteCharAt(at); break;
                 case 1: t.insert(at, sign); break;
                 case 2: t.setLength(at); break;
-                default: t.setCharAt(at, sign);
+                case 3: t.setCharAt(at, sign); break;
+                default: putToken(t, at);
             }
         }
         return t.toString();
+    }
+
+    /** Puts another token where the letter, the number or the ; at that place stands. */
+    private void putToken(StringBuilder t, int at) {
+        int from = at;
+        int to = at + 1;
+        while (from > 0 && Character.isDigit(t.charAt(at)) && Character.isDigit(t.charAt(from - 1))) {
+            from--;
+        }
+        while (to < t.length() && Character.isDigit(t.charAt(at)) && Character.isDigit(t.charAt(to))) {
+            to++;
+        }
+        t.replace(from, to, " " + TOKENS[below(TOKENS.length)] + " ");
     }
 
     private void call(int promise) {
