@@ -56,7 +56,7 @@ public final class LongRunsTest {
         whatIsDone();
         whatCouldBe();
         stonesKindsImages();
-        Checks.due("runs", runs, 29);
+        Checks.due("runs", runs, 31);
         Checks.end("LongRunsTest");
     }
 
@@ -92,11 +92,13 @@ public final class LongRunsTest {
         run("14: strikes", LongRunsTest::strikesOn);
         run("15: undo", LongRunsTest::undoesOn);
         run("16: now", LongRunsTest::nowByDeaths);
+        run("16: now, by few wells", LongRunsTest::nowByFewWells);
     }
 
     private static void whatCouldBe() {
         run("17: pass", LongRunsTest::passAlongALine);
         run("18: ring", LongRunsTest::ringsOneByOne);
+        run("18: ring, of all wells", LongRunsTest::ringOfAllWells);
         run("19: safe", LongRunsTest::safeByDry);
     }
 
@@ -419,6 +421,24 @@ public final class LongRunsTest {
         }
     }
 
+    /** A well more each time, the last of them owing 1 to each other one: as many payments as it owes to. */
+    private static void nowByFewWells(Run r) {
+        for (int wells = 1; wells <= 6; wells++) {
+            StringBuilder text = new StringBuilder("w0;".repeat(wells));
+            for (int v = 0; v < wells - 1; v++) {
+                text.append("d").append(wells - 1).append(' ').append(v).append(" 1;");
+            }
+            r.tell(text.toString());
+            int[] due = {0, 0, 0, wells - 1, wells - 1, 0};
+            for (int what = 0; what < 6; what++) {
+                r.due("now " + what, r.x.now(what), due[what]);
+            }
+        }
+        while (r.left() > 0) {
+            r.due("now 4", r.x.now(4), 5);
+        }
+    }
+
     // ---- what could be
 
     /** Six wells in a line by heats of 3: so far as cups and what can still be borne reach. */
@@ -465,6 +485,22 @@ public final class LongRunsTest {
                 r.due("strikes", r.x.strikes(), worth[struck]);
             } else {
                 r.due("ring " + (step % 10 - 2), r.x.ring(step % 10 - 2), due[struck][step % 10]);
+            }
+        }
+    }
+
+    /** Six wells by a strike of 3, which is more than the two of them that have 8. */
+    private static void ringOfAllWells(Run r) {
+        r.tell("w0;w0;w0;w0;w0;w0;d3 0 5;d0 5 4;d5 1 9;d1 4 3;d4 2 60;d2 3 8;d3 2 8;");
+        int[] whole = {3, 6, 0, 5, 1, 4, 2, 3};
+        int[] struck = {5, 2, 2, 3, NONE, NONE, NONE, NONE};
+        r.idle(1);
+        for (int i = 0; r.left() > 0; i++) {
+            int step = i % 18;
+            if (step % 9 == 8) {
+                r.due(step == 8 ? "strikes" : "undo", step == 8 ? r.x.strikes() : r.x.undo(), step == 8 ? 18 : 0);
+            } else {
+                r.due("ring " + (step % 9 - 2), r.x.ring(step % 9 - 2), (step < 9 ? whole : struck)[step % 9]);
             }
         }
     }

@@ -88,13 +88,15 @@ public final class ModelTest {
 
     private String text() {
         StringBuilder t = new StringBuilder();
-        int wells = below(12) == 0 ? below(8) : 2 + below(5);
+        int wells = below(8) == 0 ? below(8) : 2 + below(5);
         for (int w = 0; w < wells; w++) {
             item(t, 'w', toTell(0, 1));
         }
-        int stages = below(20) == 0 ? 9 : below(9);
-        int caravans = below(20) == 0 ? 5 : 1 + below(4);
         int last = Math.max(1, wells) - 1;
+        // a stage or dues with one well alone are a fault each time
+        boolean alone = last == 0 && below(4) != 0;
+        int stages = alone ? 0 : below(20) == 0 ? 9 : below(9);
+        int caravans = below(20) == 0 ? 5 : 1 + below(4);
         for (int s = 0; s < stages && t.length() < 130; s++) {
             int a = toTell(0, last);
             item(t, 's', a, below(40) == 0 ? a : another(a, last), toTell(1, 9), toTell(0, 1), toTell(0, last));
@@ -103,9 +105,13 @@ public final class ModelTest {
             item(t, 'c', toTell(0, last), toTell(0, 20), toTell(1, 20));
         }
         int most = below(3) == 0 ? 60 : 1 + below(60);
+        // by chance alone hardly any ring goes through all wells
+        for (int w = 0; w <= last && t.length() < 150 && stages < 3 && !alone; w++) {
+            item(t, 'd', w, (w + 1) % (last + 1), toTell(1, most));
+        }
         while (t.length() < 180 && below(15) != 0) {
             int a = toTell(0, last);
-            if (below(3) == 0) {
+            if (alone || below(3) == 0) {
                 item(t, 'k', toTell(0, caravans - 1), a, toTell(0, most));
             } else {
                 item(t, 'd', a, another(a, last), toTell(0, most));
